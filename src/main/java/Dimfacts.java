@@ -132,7 +132,7 @@ public final class Dimfacts {
     public int restated(int filing) throws IndexOutOfBoundsException {
         checkFiling(filing);
         int keys = 0;
-        for (int key = 0; key < KEYS; key++) {
+        for (int key = 0; key < conceptCount * KEYS_OF_CONCEPT; key++) {
             if (isRestated(key, filing)) {
                 keys++;
             }

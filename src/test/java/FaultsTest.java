@@ -12,6 +12,7 @@ public final class FaultsTest {
         faultsCountEachKey();
         faultsCountEachRule();
         faultsOfKeysToldTwice();
+        faultsOfAFullObject();
         noSuchThing();
         Check.end();
     }
@@ -225,6 +226,24 @@ public final class FaultsTest {
         x.tell(0, 0, 0, 100, 1);
         dueFaults(0, "the one with the least decimals counts", x, 1);
         dueFaults(1, "the filing before stays", x, 0);
+    }
+
+    private static void faultsOfAFullObject() {
+        Dimfacts x = ConceptsTest.withConcepts(12);
+        x.hang(11, 10, true);
+        for (int rule = 0; rule < 5; rule++) {
+            x.addRoll(10, 11);
+        }
+        for (int period = 0; period < 10; period++) {
+            for (int member = 0; member < 4; member++) {
+                x.tell(10, period, member, 1000 * period + 100000, 0);
+                x.tell(11, period, member, 50000, 0);
+            }
+        }
+        Check.due(Check.STATE, "it is full", () -> x.tell(0, 0, 0, 0, 0));
+        dueFaults(40 + 20 + 5 * 9 * 4, "all sums, all members, all rolls", x, 0);
+        Check.due(0, "disagreements", () -> x.disagreements(0));
+        Check.due(0, "restated", () -> x.restated(0));
     }
 
     private static void noSuchThing() {
