@@ -9,6 +9,7 @@ final class Check {
 
     private static int calls = 0;
     private static int wrong = 0;
+    private static String topic = "";
 
     interface Call {
         Object answer();
@@ -17,12 +18,17 @@ final class Check {
     private Check() {
     }
 
+    /** What the calls that follow are about; told with those that go wrong. */
+    static void about(String text) {
+        topic = text + ": ";
+    }
+
     static void due(Object want, String what, Call call) {
         String got = answerOf(call);
         calls++;
         if (!got.equals(String.valueOf(want))) {
             wrong++;
-            System.out.println(what + " answered " + got + ", due is " + want);
+            System.out.println(topic + what + " answered " + got + ", due is " + want);
         }
     }
 
