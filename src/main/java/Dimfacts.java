@@ -461,22 +461,16 @@ public final class Dimfacts {
         }
     }
 
-    /** The facts in a chain for each key, the one that holds as of the latest filing first. */
+    /** The facts that ever held, in a chain for each key, the one that holds as of the latest filing first. */
     private static final class KeyedFacts extends FactStore {
         private final Fact[] firsts = new Fact[KEYS];
 
         void keep(Fact fact) {
-            Fact before = null;
-            Fact after = firsts[fact.key];
-            while (after != null && !fact.replaces(after)) {
-                before = after;
-                after = after.next;
-            }
-            fact.next = after;
-            if (before == null) {
+            Fact first = firsts[fact.key];
+            // Facts are told in the latest filing alone: one that does not hold at once never will.
+            if (first == null || fact.replaces(first)) {
+                fact.next = first;
                 firsts[fact.key] = fact;
-            } else {
-                before.next = fact;
             }
         }
 
