@@ -39,6 +39,27 @@ final class Doc {
         Check.due("[]", "sentences without a test", () -> left);
     }
 
+    /** The names of the sections, from the first line to the last. */
+    static List<String> sections(List<String> due) {
+        return IS_THERE ? new ArrayList<>(SECTIONS.keySet()) : due;
+    }
+
+    /** The lines of the public face that declare something. */
+    static List<String> face(List<String> due) {
+        return IS_THERE ? Source.publicLines(lines()) : due;
+    }
+
+    /** The signatures that the promises begin with, as they would stand in the face. */
+    static List<String> signatures(List<String> due) {
+        List<String> found = new ArrayList<>();
+        for (String line : lines()) {
+            if (line.matches("`[^`]*\\([^`]*`: .*")) {
+                found.add("public " + line.substring(1, line.indexOf('`', 1)) + ";");
+            }
+        }
+        return IS_THERE ? found : due;
+    }
+
     private static List<String> sentencesOf(String section) {
         return SECTIONS.getOrDefault(section, List.of());
     }

@@ -3,6 +3,7 @@ import java.lang.reflect.Field;
 import java.lang.reflect.Method;
 import java.lang.reflect.Modifier;
 import java.util.Arrays;
+import java.util.List;
 import java.util.TreeSet;
 
 /** The public face: what the document gives, and no member beside it that others can see. */
@@ -18,7 +19,17 @@ public final class FaceTest {
         Check.due(due(), "the methods", () -> methods(face));
         Check.due("[public static final int NONE]", "the constants", () -> constants(face));
         Check.due("[public Dimfacts()]", "the constructors", () -> constructors(face));
+        linesOfTheDocument();
         Check.end();
+    }
+
+    /** The class declares what the document writes, to the letter: the names of arguments and the order too. */
+    private static void linesOfTheDocument() {
+        List<String> lines = Source.publicLines();
+        Check.due(Doc.face(lines), "the lines of the public face", () -> lines);
+        List<String> promised = lines.subList(Math.min(2, lines.size()), lines.size());
+        Check.due(Doc.signatures(promised), "what the promises declare", () -> promised);
+        Check.due("public static final int NONE = -1;", "the constant", () -> lines.get(1));
     }
 
     private static String due() {

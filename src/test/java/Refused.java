@@ -33,6 +33,12 @@ final class Refused {
         Check.due("nothing", what + " changed for later changes", () -> changed(maker, refused, changes()));
     }
 
+    static void askAll(Dimfacts x) {
+        for (On question : QUESTIONS) {
+            Check.answerOf(() -> question.call(x));
+        }
+    }
+
     private static String changed(Maker maker, On refused, List<On> questions) {
         Dimfacts touched = maker.make();
         Check.answerOf(() -> refused.call(touched));

@@ -22,13 +22,9 @@ public final class TermsBoundaryTest {
         aCallThatThrowsChangesNothing();
         throwsIndexOutOfBoundsIfThereIsNoSuch();
         constantNone();
+        theHeadingsAheadOfTheCalls();
         Doc.allOf(TERMS,
-            "The calls tell concepts, filings, facts and rules, and ask for values, sums, faults and values that are derived",
-            "Ahead of the calls `addConcept`, `hang`, `unhang`, `addRoll` the interface says: ---- concepts and rules",
-            "Ahead of the calls `file`, `tell`, `disagreements`, `restated` the interface says: ---- filings and facts",
-            "Ahead of the calls `value`, `doubt`, `sum`, `derived` the interface says: ---- values and sums",
-            "Ahead of the calls `isSumOff`, `areMembersOff`, `isRollOff`, `faults`, `faultsByList` the interface says: ---- faults");
-        callsUpTo512();
+            "The calls tell concepts, filings, facts and rules, and ask for values, sums, faults and values that are derived");
         Check.end();
     }
 
@@ -443,14 +439,19 @@ public final class TermsBoundaryTest {
         Check.due(-1, "what a concept hangs under that hangs under none", () -> Made.concepts(1).unhang(0));
     }
 
-    private static void callsUpTo512() {
-        Doc.says("What it is", "An object is used for at most 512 calls after it has been made; what later calls answer is free");
-        Dimfacts x = Made.full();
-        for (int i = 0; i < 512 - 115 - 3; i++) {
-            Check.answerOf(() -> x.tell(0, 0, 0, 5, 0));
-        }
-        Check.due(Check.STATE, "the call 510", () -> x.tell(0, 0, 0, 5, 0));
-        Check.due(11000 + 70, "the call 511", () -> x.value(11, 8, 3, 7));
-        Check.due(-1, "the call 512", () -> x.unhang(0));
+    private static void theHeadingsAheadOfTheCalls() {
+        Doc.says(TERMS, "Ahead of the calls `addConcept`, `hang`, `unhang`, `addRoll` the interface says: ---- concepts and rules");
+        dueBelow("---- concepts and rules", "[addConcept, hang, unhang, addRoll]");
+        Doc.says(TERMS, "Ahead of the calls `file`, `tell`, `disagreements`, `restated` the interface says: ---- filings and facts");
+        dueBelow("---- filings and facts", "[file, tell, disagreements, restated]");
+        Doc.says(TERMS, "Ahead of the calls `value`, `doubt`, `sum`, `derived` the interface says: ---- values and sums");
+        dueBelow("---- values and sums", "[value, doubt, sum, derived]");
+        Doc.says(TERMS, "Ahead of the calls `isSumOff`, `areMembersOff`, `isRollOff`, `faults`, `faultsByList` "
+            + "the interface says: ---- faults");
+        dueBelow("---- faults", "[isSumOff, areMembersOff, isRollOff, faults, faultsByList]");
+    }
+
+    private static void dueBelow(String heading, String names) {
+        Check.due(names, "the methods below the heading", () -> Source.publicBelow(heading));
     }
 }
